@@ -1,5 +1,8 @@
 /** Counts and prints the answers that are not as due. */
 final class Due {
+    /** More would hide the first ones, which tell most. */
+    private static final int MOST_SHOWN = 40;
+
     private int asked;
     private int wrong;
 
@@ -7,6 +10,8 @@ final class Due {
         asked++;
         if (got != want) {
             wrong++;
+        }
+        if (got != want && wrong <= MOST_SHOWN) {
             System.out.println(call + " answered " + got + ", due is " + want);
         }
     }
