@@ -359,15 +359,26 @@ public final class BlorbRows {
         }
 
         int at(int i) {
-            return holds(i, 1) ? row.octets[from + i] & 255 : -1;
+            return (int) number(i, 1);
         }
 
         int u2(int i) {
-            return holds(i, 2) ? at(i) << 8 | at(i + 1) : -1;
+            return (int) number(i, 2);
         }
 
         long u4(int i) {
-            return holds(i, 4) ? (long) u2(i) << 16 | u2(i + 2) : -1;
+            return number(i, 4);
+        }
+
+        private long number(int i, int n) {
+            if (!holds(i, n)) {
+                return -1;
+            }
+            long value = 0;
+            for (int j = 0; j < n; j++) {
+                value = value << 8 | row.octets[from + i + j] & 255;
+            }
+            return value;
         }
     }
 
