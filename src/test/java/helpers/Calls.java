@@ -55,6 +55,30 @@ final class Calls {
         }
     }
 
+    /**
+     * 60 CHUNKS with 12000 octets, every DATA odd in number, and 40 ENTRIES (DATA 0 .. 39, of which 0 means
+     * the last CHUNK, 1 the one before it, ..), in some 350 calls: no OUT is longer than that of this HOUSE.
+     */
+    static BlorbRows greatestHouse() {
+        BlorbRows x = new BlorbRows();
+        fillTape(x, 5831);
+        x.add(Octets.kind("TEXT"));
+        x.write();
+        x.back();
+        x.cut(5863);
+        x.add(Octets.kind("TEXT"));
+        for (int k = 2; k < 59; k++) {
+            x.feed(5, k * 0x0101010101L);
+            x.add(Octets.kind("TEXT"));
+        }
+        feed(x, new Octets().zeros(20).u1(255));
+        x.add(Octets.kind("TEXT"));
+        for (int i = 0; i < 40; i++) {
+            x.mean(Octets.kind("Data"), i, 59 - i);
+        }
+        return x;
+    }
+
     private static void addOut(BlorbRows x, int times) {
         for (int i = 0; i < times; i++) {
             x.back();
