@@ -78,9 +78,14 @@ public final class FaceTest {
             fieldsOf(c);
             for (Method m : c.getDeclaredMethods()) {
                 due.isTrue(m + " takes seven at most", m.getParameterCount() <= 7);
+                due.isTrue(m + " bears no name of the face", !isInFace(m.getName()));
             }
         }
         fieldsOf(BlorbRows.class);
+    }
+
+    private static boolean isInFace(String name) {
+        return FACE.stream().anyMatch(call -> call.contains(" " + name + "("));
     }
 
     private static void fieldsOf(Class<?> c) {
