@@ -46,11 +46,13 @@ public final class ChangeTest {
         dropTheLast();
         dropNoUseOrNumber();
         dropNone();
+        dropAmongForty();
         removeWhatNoneMeans();
         removeMovesWhatIsBehind();
         removeAnswersHowManyItHad();
         removeTaken();
         removeNoChunk();
+        removeAmongForty();
         due.end("ChangeTest");
     }
 
@@ -506,6 +508,17 @@ public final class ChangeTest {
         due.is("an empty house", new BlorbRows().drop(PICT, 0), NONE);
     }
 
+    private static void dropAmongForty() {
+        due.promise(20, "up to 60 CHUNKS, up to 40 ENTRIES");
+        BlorbRows x = Calls.greatestHouse();
+        due.is("no such one of 40", x.drop(DATA, 40), NONE);
+        due.is("the one that means the first", x.drop(DATA, 39), 1);
+        due.is("told(0)", x.told(0), 59);
+        due.is("told(1)", x.told(1), 39);
+        due.is("what the first means", x.entry(0, 2), 58);
+        due.is("what the last means", x.entry(38, 2), 20);
+    }
+
     private static void removeWhatNoneMeans() {
         due.promise(21, "A CHUNK that no ENTRY means goes");
         BlorbRows x = three();
@@ -570,5 +583,19 @@ public final class ChangeTest {
         BlorbRows y = three();
         y.remove(2);
         due.is("the number of one that went", y.remove(2), BAD);
+    }
+
+    private static void removeAmongForty() {
+        due.promise(21, "up to 60 CHUNKS, up to 40 ENTRIES");
+        BlorbRows x = Calls.greatestHouse();
+        due.is("the last", x.remove(59), TAKEN);
+        due.is("the first that an ENTRY means", x.remove(20), TAKEN);
+        due.is("the last that none means", x.remove(19), 5);
+        due.is("the first", x.remove(0), 5831);
+        due.is("told(0)", x.told(0), 58);
+        due.is("told(1)", x.told(1), 40);
+        due.is("what the first means", x.entry(0, 2), 57);
+        due.is("what the last means", x.entry(39, 2), 18);
+        due.is("the last octet of all", x.octet(57, 20), 255);
     }
 }

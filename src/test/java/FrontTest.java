@@ -10,11 +10,13 @@ public final class FrontTest {
         frontOfTheFirst();
         frontOfAnotherKind();
         noFront();
+        frontAmongSixty();
         releaseOfTwo();
         releaseIsAU2();
         releaseOfTheFirst();
         releaseOfAnotherKind();
         noRelease();
+        releaseAmongSixty();
         colourOfThree();
         colourBelowZero();
         colourWithoutPlte();
@@ -22,6 +24,7 @@ public final class FrontTest {
         colourThatWraps();
         colourOfTheFirst();
         colourNotOfTheNextChunk();
+        colourAmongSixty();
         due.end("FrontTest");
     }
 
@@ -76,6 +79,19 @@ public final class FrontTest {
         due.is("it went", x.front(), NONE);
     }
 
+    /** 59 CHUNKS of others, and this as the 60th. */
+    private static BlorbRows sixtieth(String kind, Octets data) {
+        BlorbRows x = Calls.manyChunks(59);
+        Calls.add(x, kind, data);
+        return x;
+    }
+
+    private static void frontAmongSixty() {
+        due.promise(13, "up to 60 CHUNKS");
+        due.is("none of 60", Calls.manyChunks(60).front(), NONE);
+        due.is("the 60th", sixtieth("Fspc", new Octets().u4(5)).front(), 5);
+    }
+
     private static void releaseOfTwo() {
         due.promise(14, "\"RelN\" of 2 octets");
         for (int n = 0; n < 6; n++) {
@@ -119,6 +135,12 @@ public final class FrontTest {
         BlorbRows x = with("RelN", new Octets().u2(1));
         x.remove(0);
         due.is("it went", x.release(), NONE);
+    }
+
+    private static void releaseAmongSixty() {
+        due.promise(14, "up to 60 CHUNKS");
+        due.is("none of 60", Calls.manyChunks(60).release(), NONE);
+        due.is("the 60th", sixtieth("RelN", new Octets().u2(5)).release(), 5);
     }
 
     private static void colourOfThree() {
@@ -184,5 +206,11 @@ public final class FrontTest {
         BlorbRows x = with("Plte", Octets.of(1, 2, 3, 4, 5));
         Calls.add(x, "TEXT", Octets.of(6, 7));
         due.is("colour(1)", x.colour(1), NONE);
+    }
+
+    private static void colourAmongSixty() {
+        due.promise(15, "up to 60 CHUNKS");
+        due.is("none of 60", Calls.manyChunks(60).colour(0), NONE);
+        due.is("the 60th", sixtieth("Plte", Octets.of(1, 2, 3)).colour(0), 0x010203);
     }
 }

@@ -190,11 +190,7 @@ public final class RefusalTest {
     }
 
     private static BlorbRows sixtyChunks() {
-        BlorbRows x = new BlorbRows();
-        for (int k = 0; k < 60; k++) {
-            x.feed(1, k);
-            x.add(TEXT);
-        }
+        BlorbRows x = Calls.manyChunks(60);
         x.feed(2, 0x0A0B);
         return x;
     }

@@ -37,6 +37,7 @@ public final class WindowTest {
         atTheBound();
         askedOnlyOfItsNumber();
         exactRatios();
+        amongSixtyAndForty();
         due.end("WindowTest");
     }
 
@@ -405,5 +406,20 @@ public final class WindowTest {
         scaled("WY / PY by a hair", with(65535, 65534, 65534, 65535, PLAIN), 65533, 65534, 65533, 65533);
         scaled("LEAST by a hair", with(65535, 1, 65534, 65534, 1, 1, 65534, 65535, 0, 0), 65533, 65533, 65534, 0);
         scaled("GREATEST by a hair", with(65535, 1, 65535, 65535, 1, 1, 0, 0, 65533, 65534), 65534, 65534, 65533, 0);
+    }
+
+    private static void amongSixtyAndForty() {
+        due.promise(16, "up to 60 CHUNKS, up to 40 ENTRIES");
+        BlorbRows x = Calls.manyChunks(58);
+        Calls.add(x, "Rect", new Octets().u4(10, 6));
+        for (int i = 0; i < 40; i++) {
+            x.mean(PICT, 46 - i, 58);
+        }
+        Calls.add(x, "TEXT", Octets.of());
+        scaled("no Reso among 60", x, 1, 1, 10, 6);
+        x.remove(59);
+        Calls.add(x, "Reso", reso(2, 2).u4(7).u4(PLAIN));
+        scaled("Reso is the 60th", x, 1, 1, 5, 3);
+        due.is("no such ENTRY among 40", x.scaled(47, 1, 1, 0), NONE);
     }
 }

@@ -55,6 +55,16 @@ final class Calls {
         }
     }
 
+    /** n CHUNKS "TEXT" of an octet each, which is the CHUNK's number. */
+    static BlorbRows manyChunks(int n) {
+        BlorbRows x = new BlorbRows();
+        for (int k = 0; k < n; k++) {
+            x.feed(1, k);
+            x.add(Octets.kind("TEXT"));
+        }
+        return x;
+    }
+
     /**
      * 60 CHUNKS with 12000 octets, every DATA odd in number, and 40 ENTRIES (DATA 0 .. 39, of which 0 means
      * the last CHUNK, 1 the one before it, ..), in some 350 calls: no OUT is longer than that of this HOUSE.
