@@ -2,8 +2,6 @@ import java.io.File;
 import java.io.IOException;
 import java.lang.reflect.Method;
 import java.lang.reflect.Modifier;
-import java.net.URL;
-import java.net.URLClassLoader;
 import java.nio.file.Files;
 import java.nio.file.Path;
 import java.util.ArrayList;
@@ -68,25 +66,18 @@ public final class ReadmeTest {
     }
 
     private static void run(String program) throws IOException, ReflectiveOperationException {
-        Path folder = Files.createTempDirectory("readme");
-        Path file = folder.resolve("ReadmeExamples.java");
+        // Beside this class, so that the examples are found like it.
+        String folder = System.getProperty("java.class.path");
+        Path file = Path.of(folder, "ReadmeExamples.java");
         Files.writeString(file, program);
         JavaCompiler javac = ToolProvider.getSystemJavaCompiler();
-        due.isTrue("there is a compiler", javac != null);
-        if (javac == null) {
-            return;
-        }
-        String path = System.getProperty("java.class.path");
-        int code = javac.run(null, null, null, "-cp", path, "-d", folder.toString(), file.toString());
+        int code = javac == null ? -1 : javac.run(null, null, null, "-cp", folder, "-d", folder, file.toString());
         due.is("the examples compile", code, 0);
         List<Long> answers = new ArrayList<>();
         if (code == 0) {
-            try (URLClassLoader loader = new URLClassLoader(new URL[] {folder.toUri().toURL()})) {
-                loader.loadClass("ReadmeExamples").getMethod("run", List.class).invoke(null, answers);
-            }
+            Class.forName("ReadmeExamples").getMethod("run", List.class).invoke(null, answers);
         }
         compare(answers);
-        clear(folder);
     }
 
     private static void compare(List<Long> answers) {
@@ -94,13 +85,6 @@ public final class ReadmeTest {
         for (int i = 0; i < Math.min(answers.size(), wanted.size()); i++) {
             due.is(calls.get(i), answers.get(i), wanted.get(i));
         }
-    }
-
-    private static void clear(Path folder) {
-        for (File file : folder.toFile().listFiles()) {
-            file.delete();
-        }
-        folder.toFile().delete();
     }
 
     private static void everyCallIsShown() {
